@@ -409,20 +409,17 @@ public final class SeaPost {
             return false;
         }
 
-        /** The port of the first of the calls with the earliest meeting, for mail that leaves here on this day; NONE. */
+        /**
+         * To which port mail is sent that leaves here on this day; NONE. The first call that it can meet has the
+         * earliest meeting, as every later one begins when the ship has left that.
+         */
         int portOfMeeting(int here, int day) {
-            int best = NONE;
-            int earliest = 0;
             for (int i = 0; i < calls; i++) {
-                int there = day + mailDays(here, ports[i]);
-                int meeting = Math.max(there, arrivals[i]);
-                boolean reached = ports[i] != here && leavings[i] >= there;
-                if (reached && (best == NONE || meeting < earliest)) {
-                    best = ports[i];
-                    earliest = meeting;
+                if (ports[i] != here && leavings[i] >= day + mailDays(here, ports[i])) {
+                    return ports[i];
                 }
             }
-            return best;
+            return NONE;
         }
     }
 
@@ -555,6 +552,7 @@ public final class SeaPost {
         }
 
         void writeDay(int day) {
+            // The last day is 1000, so no number has a greater unit.
             for (int unit = LAST_DAY; unit > 0; unit /= 10) {
                 if (day >= unit || unit == 1) {
                     write((char) ('0' + day / unit % 10));

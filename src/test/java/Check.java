@@ -40,8 +40,16 @@ final class Check {
         } catch (RuntimeException e) {
             if (e.getClass() != due) {
                 tellWrong(what + " threw " + e.getClass().getName() + ", due is " + due.getName());
+            } else if (!isThrownBySeaPost(e)) {
+                tellWrong(what + " left it to the library to throw");
             }
         }
+    }
+
+    /** The program tests what it is given and throws by itself; neither the machine nor a list throws for it. */
+    static boolean isThrownBySeaPost(RuntimeException e) {
+        StackTraceElement[] calls = e.getStackTrace();
+        return calls.length > 0 && calls[0].getClassName().startsWith("SeaPost");
     }
 
     /** As fails, and the object must answer all questions as before. */

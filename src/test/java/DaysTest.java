@@ -10,6 +10,7 @@ public final class DaysTest {
         waitsForALaterCallOnly();
         meetings();
         firstOfTheMeetings();
+        sixCalls();
         lost();
         sentSixTimes();
         strike();
@@ -115,6 +116,16 @@ public final class DaysTest {
         tell(post, 0, 6, 30, 0);
         post.post(5, 0, SeaPost.NONE);
         Check.is("does not wait for a ship that should be here", post.comesTo(0), 304);
+        SeaPost today = withRoute(5, 5, 3, 9, 4, 30, 0);
+        today.pass(3);
+        tell(today, 0, 6, 30, 0);
+        today.post(5, 0, SeaPost.NONE);
+        Check.is("nor for one that should arrive today", today.comesTo(0), 504);
+        SeaPost tomorrow = withRoute(5, 5, 4, 9, 4, 30, 0);
+        tomorrow.pass(3);
+        tell(tomorrow, 0, 6, 30, 0);
+        tomorrow.post(5, 0, SeaPost.NONE);
+        Check.is("but for one that should arrive tomorrow", tomorrow.state(0), SeaPost.WAITS);
     }
 
     private static void meetings() {
@@ -135,6 +146,19 @@ public final class DaysTest {
         second.pass(25);
         second.post(0, 0, SeaPost.NONE);
         Check.is("only a call that can be met counts", second.comesTo(0), 3004);
+    }
+
+    private static void sixCalls() {
+        SeaPost post = withRoute(9, 0, 0, 0, 1, 1, 0, 2, 2, 0, 3, 3, 0, 4, 4, 0, 5, 12, 0);
+        Check.is("shipAt by 6 calls", post.shipAt(0), 0);
+        post.pass(5);
+        Check.is("shipAt by none of 6 calls", post.shipAt(0), SeaPost.NONE);
+        post.post(9, 0, SeaPost.NONE);
+        Check.is("to the 6th of 6 calls", post.comesTo(0), 1005);
+        post.pass(7);
+        Check.is("met there", post.state(0), SeaPost.DELIVERED);
+        post.post(9, 0, SeaPost.NONE);
+        Check.is("to none of 6 calls", post.state(1), SeaPost.LOST);
     }
 
     /** A call that can be met is met ahead of all later ones, so two meetings are never equal. */

@@ -146,6 +146,7 @@ public final class PlacesTest {
     private static void overtaken() {
         SeaPost post = withOvertaking();
         Check.is("letter 3 is delivered, the others are not", post.overtaken(3), 0);
+        Check.is("letter 2 is not delivered", post.overtaken(2), 0);
         post.pass(2);
         Check.is("letter 2 is delivered behind 3", post.overtaken(2), 0);
         Check.is("letter 3 has overtaken 2", post.overtaken(3), 1);
@@ -193,6 +194,11 @@ public final class PlacesTest {
         }
         post.post(0, 2, 3);
         Check.is("one more in 0", post.lying(0), 2);
+        SeaPost other = new SeaPost();
+        other.addShip();
+        other.post(4, 0, 3);
+        Check.is("letter 0 lies in 4", other.lying(4), 1);
+        Check.is("it does not lie at home", other.lying(3), 0);
         Check.fails("lying(10)", Check.INDEX, () -> post.lying(10));
         Check.fails("lying(-1)", Check.INDEX, () -> post.lying(-1));
     }

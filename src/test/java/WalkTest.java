@@ -166,7 +166,7 @@ public final class WalkTest {
         return wrong() ? odd() : random.nextInt(Math.max(1, plain.routes.size()));
     }
 
-    private static String answer(Question question) {
+    private static String answerOfPlain(Question question) {
         try {
             return String.valueOf(question.ask());
         } catch (RuntimeException e) {
@@ -174,8 +174,16 @@ public final class WalkTest {
         }
     }
 
+    private static String answerOfPost(Question question) {
+        try {
+            return String.valueOf(question.ask());
+        } catch (RuntimeException e) {
+            return (Check.isThrownBySeaPost(e) ? "throws." : "library throws.") + e.getClass().getSimpleName();
+        }
+    }
+
     private static void same(String name, Question asked, Question due) {
-        Check.is(name, answer(asked), answer(due));
+        Check.is(name, answerOfPost(asked), answerOfPlain(due));
     }
 
     /** At the end of a walk all letters are looked at, which shows too whether the walks come about. */
