@@ -13,13 +13,13 @@ public final class MarksTest {
         Check.end();
     }
 
-    private static void tellCall(SeaPost post, int toldAt, int port, int arrives) {
+    private static void tellCall(Post post, int toldAt, int port, int arrives) {
         post.call(0, port, arrives, 0);
         post.tell(0, toldAt);
     }
 
-    private static SeaPost sentTwice() {
-        SeaPost post = new SeaPost();
+    private static Post sentTwice() {
+        Post post = new Post();
         post.addShip();
         tellCall(post, 0, 2, 90);
         post.pass(9);
@@ -30,24 +30,24 @@ public final class MarksTest {
     }
 
     private static void marksGrow() {
-        SeaPost post = sentTwice();
-        Check.is("marks", Check.marks(post, 0), "-A9>-C12>J");
+        Post post = sentTwice();
+        Check.is("marks", post.marksOf(0), "-A9>-C12>J");
         Check.is("length", post.marks(0), 10);
         post.pass(8);
-        Check.is("marks when it came", Check.marks(post, 0), "-A9>-C12>J20");
+        Check.is("marks when it came", post.marksOf(0), "-A9>-C12>J20");
         post.pass(48);
-        Check.is("marks, unchanged", Check.marks(post, 0), "-A9>-C12>J20");
+        Check.is("marks, unchanged", post.marksOf(0), "-A9>-C12>J20");
         post.pass(1);
-        Check.is("marks when dead", Check.marks(post, 0), "-A9>-C12>J20+");
+        Check.is("marks when dead", post.marksOf(0), "-A9>-C12>J20+");
         post.pass(1);
-        Check.is("marks when returned", Check.marks(post, 0), "-A9>-C12>J20+<D");
+        Check.is("marks when returned", post.marksOf(0), "-A9>-C12>J20+<D");
         for (int letter : NO_LETTERS) {
-            Check.fails("marks of no letter", Check.INDEX, () -> post.marks(letter));
+            post.refuses("marks of no letter", Check.INDEX, p -> p.marks(letter));
         }
     }
 
     private static void numbersOfDays() {
-        SeaPost post = new SeaPost();
+        Post post = new Post();
         post.addShip();
         int[] days = {0, 7, 10, 99, 100, 105, 909, 999, 1000};
         int letter = 0;
@@ -56,30 +56,30 @@ public final class MarksTest {
                 post.pass(Math.min(60, day - post.today()));
             }
             post.post(letter, 0, 0);
-            Check.is("marks on day " + day, Check.marks(post, letter), (char) ('A' + letter) + "" + day);
+            Check.is("marks on day " + day, post.marksOf(letter), (char) ('A' + letter) + "" + day);
             letter++;
         }
         post.post(9, 0, 0);
-        Check.is("marks in port 9", Check.marks(post, letter), "J1000");
+        Check.is("marks in port 9", post.marksOf(letter), "J1000");
     }
 
     private static void markAt() {
-        SeaPost post = sentTwice();
+        Post post = sentTwice();
         String due = "-A9>-C12>J";
         for (int i = 0; i < due.length(); i++) {
             Check.is("markAt " + i, post.markAt(0, i), due.charAt(i));
         }
         int[] noIndexes = {-1, due.length(), 127, 128, Integer.MIN_VALUE, Integer.MAX_VALUE};
         for (int index : noIndexes) {
-            Check.fails("markAt " + index, Check.INDEX, () -> post.markAt(0, index));
+            post.refuses("markAt " + index, Check.INDEX, p -> p.markAt(0, index));
         }
         for (int letter : NO_LETTERS) {
-            Check.fails("markAt of no letter", Check.INDEX, () -> post.markAt(letter, 0));
+            post.refuses("markAt of no letter", Check.INDEX, p -> p.markAt(letter, 0));
         }
     }
 
     private static void heldSign() {
-        SeaPost post = new SeaPost();
+        Post post = new Post();
         post.addShip();
         post.strike(6, 2);
         post.post(6, 0, 0);
@@ -89,38 +89,38 @@ public final class MarksTest {
         Check.is("second char", post.markAt(0, 3), sign.charAt(1));
         Check.is("whereByMarks behind the sign", post.whereByMarks(0), 6);
         Check.is("written behind the sign", post.written(0, 0), 60);
-        Check.fails("no other port", Check.INDEX, () -> post.written(0, 1));
+        post.refuses("no other port", Check.INDEX, p -> p.written(0, 1));
     }
 
     private static void written() {
-        SeaPost post = sentTwice();
+        Post post = sentTwice();
         int[] due = {90, 21, 1};
         for (int place = 0; place < due.length; place++) {
             Check.is("written " + place, post.written(0, place), due[place]);
         }
         int[] noPlaces = {-1, 3, Integer.MIN_VALUE, Integer.MAX_VALUE};
         for (int place : noPlaces) {
-            Check.fails("written " + place, Check.INDEX, () -> post.written(0, place));
+            post.refuses("written " + place, Check.INDEX, p -> p.written(0, place));
         }
         for (int letter : NO_LETTERS) {
-            Check.fails("written of no letter", Check.INDEX, () -> post.written(letter, 0));
+            post.refuses("written of no letter", Check.INDEX, p -> p.written(letter, 0));
         }
     }
 
     private static void writtenHome() {
-        SeaPost post = sentTwice();
+        Post post = sentTwice();
         post.pass(60);
         int[] due = {30, 90, 21, 1};
         for (int place = 0; place < due.length; place++) {
             Check.is("written " + place + " when returned", post.written(0, place), due[place]);
         }
-        Check.fails("written 4", Check.INDEX, () -> post.written(0, 4));
+        post.refuses("written 4", Check.INDEX, p -> p.written(0, 4));
         Check.is("whereByMarks when returned", post.whereByMarks(0), 3);
     }
 
     /** As many marks as a letter can bear: strikes of one day, every second day, ports that change six times. */
     private static void mostMarks() {
-        SeaPost post = new SeaPost();
+        Post post = new Post();
         post.addShip();
         for (int i = 0; i < 15; i++) {
             post.pass(60);
@@ -148,15 +148,15 @@ public final class MarksTest {
                 due.append(sign);
                 post.pass(1);
             }
-            Check.is("marks on day " + post.today(), Check.marks(post, 0), due.toString());
+            Check.is("marks on day " + post.today(), post.marksOf(0), due.toString());
         }
         Check.is("sent on", sent, 6);
         post.pass(994 - post.today());
-        Check.is("marks on its last day", Check.marks(post, 0), due.toString());
+        Check.is("marks on its last day", post.marksOf(0), due.toString());
         post.pass(1);
-        Check.is("dead at last", Check.marks(post, 0), due + "+");
+        Check.is("dead at last", post.marksOf(0), due + "+");
         post.pass(5);
-        Check.is("home at last", Check.marks(post, 0), due + "+<J");
+        Check.is("home at last", post.marksOf(0), due + "+<J");
         Check.is("found at home", post.whereByMarks(0), 9);
     }
 }

@@ -19,8 +19,8 @@ public final class PlacesTest {
     }
 
     /** On day 64, letters 0 to 7: one in each of the states; those that died were posted first. */
-    private static SeaPost withAllStates() {
-        SeaPost post = new SeaPost();
+    private static Post withAllStates() {
+        Post post = new Post();
         post.addShip();
         post.addShip();
         post.addShip();
@@ -44,18 +44,18 @@ public final class PlacesTest {
     }
 
     private static void letters() {
-        SeaPost post = new SeaPost();
+        Post post = new Post();
         post.addShip();
         Check.is("letters at first", post.letters(), 0);
         post.post(0, 0, 0);
         post.post(0, 0, 0);
         Check.is("letters", post.letters(), 2);
-        Check.fails("post at no port", Check.INDEX, () -> post.post(-1, 0, 0));
+        post.refuses("post at no port", Check.INDEX, p -> p.post(-1, 0, 0));
         Check.is("letters after a wrong post", post.letters(), 2);
     }
 
     private static void allStates() {
-        SeaPost post = withAllStates();
+        Post post = withAllStates();
         Check.is("today", post.today(), 64);
         int[] states = {SeaPost.RETURNED, SeaPost.BURNT, SeaPost.DEAD, SeaPost.DELIVERED, SeaPost.WAITS, SeaPost.LOST,
             SeaPost.AT_SEA, SeaPost.HELD};
@@ -66,17 +66,17 @@ public final class PlacesTest {
             Check.is("whereByMarks of " + letter, post.whereByMarks(letter), places[letter]);
         }
         for (int letter : NO_LETTERS) {
-            Check.fails("state of no letter", Check.INDEX, () -> post.state(letter));
-            Check.fails("where of no letter", Check.INDEX, () -> post.where(letter));
-            Check.fails("whereByMarks of no letter", Check.INDEX, () -> post.whereByMarks(letter));
-            Check.fails("comesTo of no letter", Check.INDEX, () -> post.comesTo(letter));
-            Check.fails("sentOn of no letter", Check.INDEX, () -> post.sentOn(letter));
-            Check.fails("overtaken of no letter", Check.INDEX, () -> post.overtaken(letter));
+            post.refuses("state of no letter", Check.INDEX, p -> p.state(letter));
+            post.refuses("where of no letter", Check.INDEX, p -> p.where(letter));
+            post.refuses("whereByMarks of no letter", Check.INDEX, p -> p.whereByMarks(letter));
+            post.refuses("comesTo of no letter", Check.INDEX, p -> p.comesTo(letter));
+            post.refuses("sentOn of no letter", Check.INDEX, p -> p.sentOn(letter));
+            post.refuses("overtaken of no letter", Check.INDEX, p -> p.overtaken(letter));
         }
     }
 
     private static void whereAndMarksAgree() {
-        SeaPost post = new SeaPost();
+        Post post = new Post();
         post.addShip();
         post.call(0, 9, 30, 0);
         post.tell(0, 0);
@@ -94,7 +94,7 @@ public final class PlacesTest {
     }
 
     private static void comesTo() {
-        SeaPost post = new SeaPost();
+        Post post = new Post();
         post.addShip();
         post.call(0, 0, 50, 0);
         post.tell(0, 9);
@@ -111,7 +111,7 @@ public final class PlacesTest {
     }
 
     private static void sentOn() {
-        SeaPost post = new SeaPost();
+        Post post = new Post();
         post.addShip();
         post.call(0, 2, 10, 0);
         post.tell(0, 0);
@@ -129,8 +129,8 @@ public final class PlacesTest {
     }
 
     /** Three letters to port 9: the farther one is posted, the later it comes. */
-    private static SeaPost withOvertaking() {
-        SeaPost post = new SeaPost();
+    private static Post withOvertaking() {
+        Post post = new Post();
         post.addShip();
         post.addShip();
         post.call(0, 9, 2, 20);
@@ -144,7 +144,7 @@ public final class PlacesTest {
     }
 
     private static void overtaken() {
-        SeaPost post = withOvertaking();
+        Post post = withOvertaking();
         Check.is("letter 3 is delivered, the others are not", post.overtaken(3), 0);
         Check.is("letter 2 is not delivered", post.overtaken(2), 0);
         post.pass(2);
@@ -158,7 +158,7 @@ public final class PlacesTest {
     }
 
     private static void overtakenOnTheSameDay() {
-        SeaPost post = new SeaPost();
+        Post post = new Post();
         post.addShip();
         post.call(0, 1, 5, 0);
         post.tell(0, 1);
@@ -172,7 +172,7 @@ public final class PlacesTest {
     }
 
     private static void overtakenOfAnotherShip() {
-        SeaPost post = new SeaPost();
+        Post post = new Post();
         post.addShip();
         post.addShip();
         post.call(0, 1, 5, 0);
@@ -187,35 +187,35 @@ public final class PlacesTest {
     }
 
     private static void lying() {
-        SeaPost post = withAllStates();
+        Post post = withAllStates();
         int[] due = {1, 0, 0, 0, 0, 0, 0, 0, 1, 1};
         for (int port = 0; port < 10; port++) {
             Check.is("lying in " + port, post.lying(port), due[port]);
         }
         post.post(0, 2, 3);
         Check.is("one more in 0", post.lying(0), 2);
-        SeaPost other = new SeaPost();
+        Post other = new Post();
         other.addShip();
         other.post(4, 0, 3);
         Check.is("letter 0 lies in 4", other.lying(4), 1);
         Check.is("it does not lie at home", other.lying(3), 0);
-        Check.fails("lying(10)", Check.INDEX, () -> post.lying(10));
-        Check.fails("lying(-1)", Check.INDEX, () -> post.lying(-1));
+        post.refuses("lying(10)", Check.INDEX, p -> p.lying(10));
+        post.refuses("lying(-1)", Check.INDEX, p -> p.lying(-1));
     }
 
     private static void deadAt() {
-        SeaPost post = withAllStates();
+        Post post = withAllStates();
         Check.is("deadAt(0)", post.deadAt(0), 2);
-        Check.fails("deadAt(1)", Check.INDEX, () -> post.deadAt(1));
-        Check.fails("deadAt(-1)", Check.INDEX, () -> post.deadAt(-1));
-        Check.fails("deadAt of the least int", Check.INDEX, () -> post.deadAt(Integer.MIN_VALUE));
+        post.refuses("deadAt(1)", Check.INDEX, p -> p.deadAt(1));
+        post.refuses("deadAt(-1)", Check.INDEX, p -> p.deadAt(-1));
+        post.refuses("deadAt of the least int", Check.INDEX, p -> p.deadAt(Integer.MIN_VALUE));
         post.pass(6);
-        Check.fails("deadAt(0) when the office has opened it", Check.INDEX, () -> post.deadAt(0));
+        post.refuses("deadAt(0) when the office has opened it", Check.INDEX, p -> p.deadAt(0));
     }
 
     /** Letter 1 dies ahead of letter 0, which is at sea for long. */
     private static void deadAtInTheOrderOfDying() {
-        SeaPost post = new SeaPost();
+        Post post = new Post();
         post.addShip();
         post.addShip();
         post.call(0, 9, 0, 30);
@@ -239,7 +239,7 @@ public final class PlacesTest {
     }
 
     private static void deliveredAs() {
-        SeaPost post = withOvertaking();
+        Post post = withOvertaking();
         post.pass(30);
         int[] due = {3, 2, 1, 0, SeaPost.NONE, SeaPost.NONE};
         for (int place = 0; place < due.length; place++) {
@@ -247,9 +247,9 @@ public final class PlacesTest {
         }
         Check.is("deliveredAs of the greatest int", post.deliveredAs(0, Integer.MAX_VALUE), SeaPost.NONE);
         Check.is("deliveredAs of another ship", post.deliveredAs(1, 0), SeaPost.NONE);
-        Check.fails("place -1", Check.ARGUMENT, () -> post.deliveredAs(0, -1));
-        Check.fails("the least place", Check.ARGUMENT, () -> post.deliveredAs(0, Integer.MIN_VALUE));
-        Check.fails("no ship", Check.INDEX, () -> post.deliveredAs(2, 0));
-        Check.fails("no ship and place -1", Check.INDEX, () -> post.deliveredAs(-1, -1));
+        post.refuses("place -1", Check.ARGUMENT, p -> p.deliveredAs(0, -1));
+        post.refuses("the least place", Check.ARGUMENT, p -> p.deliveredAs(0, Integer.MIN_VALUE));
+        post.refuses("no ship", Check.INDEX, p -> p.deliveredAs(2, 0));
+        post.refuses("no ship and place -1", Check.INDEX, p -> p.deliveredAs(-1, -1));
     }
 }

@@ -20,16 +20,16 @@ public final class ShipsTest {
     }
 
     private static void aNewObject() {
-        SeaPost post = new SeaPost();
+        Post post = new Post();
         Check.is("today of a new object", post.today(), 0);
         Check.is("letters of a new object", post.letters(), 0);
-        Check.fails("routes(0) of a new object", Check.INDEX, () -> post.routes(0));
-        Check.fails("deadAt(0) of a new object", Check.INDEX, () -> post.deadAt(0));
+        post.refuses("routes(0) of a new object", Check.INDEX, p -> p.routes(0));
+        post.refuses("deadAt(0) of a new object", Check.INDEX, p -> p.deadAt(0));
         for (int port = 0; port < 10; port++) {
             Check.is("isClosed of a new object", post.isClosed(port), false);
             Check.is("lying of a new object", post.lying(port), 0);
         }
-        SeaPost other = new SeaPost();
+        Post other = new Post();
         post.addShip();
         post.pass(3);
         post.strike(1, 5);
@@ -39,23 +39,23 @@ public final class ShipsTest {
     }
 
     private static void addShip() {
-        SeaPost post = new SeaPost();
+        Post post = new Post();
         for (int ship = 0; ship < 8; ship++) {
             Check.is("addShip", post.addShip(), ship);
             Check.is("routes of a new ship", post.routes(ship), 0);
         }
-        Check.failsAndKeeps(post, "a 9th ship", Check.STATE, post::addShip);
-        Check.fails("routes(8)", Check.INDEX, () -> post.routes(8));
+        post.refuses("a 9th ship", Check.STATE, SeaPost::addShip);
+        post.refuses("routes(8)", Check.INDEX, p -> p.routes(8));
     }
 
     private static void callCounts() {
-        SeaPost post = new SeaPost();
+        Post post = new Post();
         post.addShip();
         post.addShip();
         for (int i = 0; i < 6; i++) {
             Check.is("call", post.call(0, 9 - i, 10 * i, 2), i + 1);
         }
-        Check.failsAndKeeps(post, "a 7th call", Check.STATE, () -> post.call(0, 0, 900, 0));
+        post.refuses("a 7th call", Check.STATE, p -> p.call(0, 0, 900, 0));
         Check.is("call of another ship", post.call(1, 0, 0, 0), 1);
         post.tell(0, 0);
         Check.is("call behind telling", post.call(0, 5, 0, 0), 1);
@@ -64,53 +64,53 @@ public final class ShipsTest {
     }
 
     private static void callRanges() {
-        SeaPost post = new SeaPost();
+        Post post = new Post();
         post.addShip();
         int[] noPorts = {-1, 10, Integer.MIN_VALUE, Integer.MAX_VALUE};
         for (int port : noPorts) {
-            Check.fails("call at no port", Check.INDEX, () -> post.call(0, port, 0, 0));
+            post.refuses("call at no port", Check.INDEX, p -> p.call(0, port, 0, 0));
         }
         int[] noShips = {-1, 1, Integer.MIN_VALUE, Integer.MAX_VALUE};
         for (int ship : noShips) {
-            Check.fails("call of no ship", Check.INDEX, () -> post.call(ship, 0, 0, 0));
+            post.refuses("call of no ship", Check.INDEX, p -> p.call(ship, 0, 0, 0));
         }
         int[] noDays = {-1, 1001, Integer.MIN_VALUE, Integer.MAX_VALUE};
         for (int day : noDays) {
-            Check.fails("call on no day", Check.ARGUMENT, () -> post.call(0, 0, day, 0));
+            post.refuses("call on no day", Check.ARGUMENT, p -> p.call(0, 0, day, 0));
         }
         int[] noStays = {-1, 31, Integer.MIN_VALUE, Integer.MAX_VALUE};
         for (int stay : noStays) {
-            Check.fails("call with no stay", Check.ARGUMENT, () -> post.call(0, 0, 0, stay));
+            post.refuses("call with no stay", Check.ARGUMENT, p -> p.call(0, 0, 0, stay));
         }
         Check.is("call with the least numbers", post.call(0, 0, 0, 0), 1);
         Check.is("call with the greatest numbers", post.call(0, 9, 1000, 30), 2);
     }
 
     private static void callOrder() {
-        SeaPost post = new SeaPost();
+        Post post = new Post();
         post.addShip();
         post.call(0, 3, 4, 2);
-        Check.fails("arriving with the call before", Check.STATE, () -> post.call(0, 4, 4, 0));
-        Check.fails("arriving when the call before leaves", Check.STATE, () -> post.call(0, 4, 6, 0));
-        Check.fails("arriving ahead of the call before", Check.STATE, () -> post.call(0, 4, 0, 0));
+        post.refuses("arriving with the call before", Check.STATE, p -> p.call(0, 4, 4, 0));
+        post.refuses("arriving when the call before leaves", Check.STATE, p -> p.call(0, 4, 6, 0));
+        post.refuses("arriving ahead of the call before", Check.STATE, p -> p.call(0, 4, 0, 0));
         Check.is("arriving behind the call before", post.call(0, 4, 7, 0), 2);
         Check.is("the same port again", post.call(0, 4, 8, 0), 3);
     }
 
     private static void callFirstException() {
-        SeaPost post = new SeaPost();
+        Post post = new Post();
         post.addShip();
         for (int i = 0; i < 6; i++) {
             post.call(0, 0, 10 + i, 0);
         }
-        Check.fails("no ship, no day, a full draft", Check.INDEX, () -> post.call(1, 0, -1, 0));
-        Check.fails("no port, no stay, a full draft", Check.INDEX, () -> post.call(0, 10, 0, 31));
-        Check.fails("no day, a full draft", Check.ARGUMENT, () -> post.call(0, 0, 1001, 0));
-        Check.fails("no stay, a full draft", Check.ARGUMENT, () -> post.call(0, 0, 5, -1));
+        post.refuses("no ship, no day, a full draft", Check.INDEX, p -> p.call(1, 0, -1, 0));
+        post.refuses("no port, no stay, a full draft", Check.INDEX, p -> p.call(0, 10, 0, 31));
+        post.refuses("no day, a full draft", Check.ARGUMENT, p -> p.call(0, 0, 1001, 0));
+        post.refuses("no stay, a full draft", Check.ARGUMENT, p -> p.call(0, 0, 5, -1));
     }
 
     private static void tell() {
-        SeaPost post = new SeaPost();
+        Post post = new Post();
         post.addShip();
         post.addShip();
         post.call(0, 7, 0, 3);
@@ -122,7 +122,7 @@ public final class ShipsTest {
     }
 
     private static void tellWithoutCalls() {
-        SeaPost post = new SeaPost();
+        Post post = new Post();
         post.addShip();
         post.call(0, 7, 0, 3);
         post.tell(0, 7);
@@ -134,22 +134,22 @@ public final class ShipsTest {
     }
 
     private static void tellWrong() {
-        SeaPost post = new SeaPost();
+        Post post = new Post();
         post.addShip();
         for (int i = 0; i < 20; i++) {
             Check.is("tell", post.tell(0, i % 10), i);
         }
         post.call(0, 3, 0, 30);
-        Check.failsAndKeeps(post, "a 21st route", Check.STATE, () -> post.tell(0, 0));
+        post.refuses("a 21st route", Check.STATE, p -> p.tell(0, 0));
         Check.is("the draft is kept", post.call(0, 3, 31, 0), 2);
-        Check.fails("no ship", Check.INDEX, () -> post.tell(1, 0));
-        Check.fails("a ship below 0", Check.INDEX, () -> post.tell(-1, 0));
-        Check.fails("no port, 20 routes", Check.INDEX, () -> post.tell(0, 10));
-        Check.fails("a port below 0, 20 routes", Check.INDEX, () -> post.tell(0, -1));
+        post.refuses("no ship", Check.INDEX, p -> p.tell(1, 0));
+        post.refuses("a ship below 0", Check.INDEX, p -> p.tell(-1, 0));
+        post.refuses("no port, 20 routes", Check.INDEX, p -> p.tell(0, 10));
+        post.refuses("a port below 0, 20 routes", Check.INDEX, p -> p.tell(0, -1));
     }
 
     private static void shipAt() {
-        SeaPost post = new SeaPost();
+        Post post = new Post();
         post.addShip();
         Check.is("shipAt without routes", post.shipAt(0), SeaPost.NONE);
         post.call(0, 0, 1, 0);
@@ -160,15 +160,15 @@ public final class ShipsTest {
             Check.is("shipAt on day " + day, post.shipAt(0), due[day]);
             post.pass(1);
         }
-        Check.fails("shipAt(1)", Check.INDEX, () -> post.shipAt(1));
-        Check.fails("shipAt(-1)", Check.INDEX, () -> post.shipAt(-1));
+        post.refuses("shipAt(1)", Check.INDEX, p -> p.shipAt(1));
+        post.refuses("shipAt(-1)", Check.INDEX, p -> p.shipAt(-1));
         post.call(0, 8, 0, 30);
         post.tell(0, 9);
         Check.is("shipAt by a new route, begun ahead of today", post.shipAt(0), 8);
     }
 
     private static void routes() {
-        SeaPost post = new SeaPost();
+        Post post = new Post();
         post.addShip();
         post.addShip();
         post.call(0, 0, 1, 0);
@@ -177,12 +177,12 @@ public final class ShipsTest {
         post.tell(0, 0);
         Check.is("routes", post.routes(0), 2);
         Check.is("routes of the other ship", post.routes(1), 0);
-        Check.fails("routes(2)", Check.INDEX, () -> post.routes(2));
-        Check.fails("routes(-1)", Check.INDEX, () -> post.routes(-1));
+        post.refuses("routes(2)", Check.INDEX, p -> p.routes(2));
+        post.refuses("routes(-1)", Check.INDEX, p -> p.routes(-1));
     }
 
     private static void wordTravels() {
-        SeaPost post = new SeaPost();
+        Post post = new Post();
         post.addShip();
         post.tell(0, 0);
         // The days that word takes to a port that is so many numbers away.
@@ -196,7 +196,7 @@ public final class ShipsTest {
     }
 
     private static void wordToldLaterComesSooner() {
-        SeaPost post = new SeaPost();
+        Post post = new Post();
         post.addShip();
         post.tell(0, 0);
         post.pass(1);
@@ -213,17 +213,17 @@ public final class ShipsTest {
     }
 
     private static void wordWrong() {
-        SeaPost post = new SeaPost();
+        Post post = new Post();
         post.addShip();
         Check.is("word without routes", post.word(9, 0), SeaPost.NONE);
-        Check.fails("word in port 10", Check.INDEX, () -> post.word(10, 0));
-        Check.fails("word in port -1", Check.INDEX, () -> post.word(-1, 0));
-        Check.fails("word of ship 1", Check.INDEX, () -> post.word(0, 1));
-        Check.fails("word of ship -1", Check.INDEX, () -> post.word(0, -1));
+        post.refuses("word in port 10", Check.INDEX, p -> p.word(10, 0));
+        post.refuses("word in port -1", Check.INDEX, p -> p.word(-1, 0));
+        post.refuses("word of ship 1", Check.INDEX, p -> p.word(0, 1));
+        post.refuses("word of ship -1", Check.INDEX, p -> p.word(0, -1));
     }
 
     private static void behind() {
-        SeaPost post = new SeaPost();
+        Post post = new Post();
         post.addShip();
         Check.is("behind without routes", post.behind(0), 0);
         post.tell(0, 0);
@@ -236,7 +236,7 @@ public final class ShipsTest {
         Check.is("behind a second route", post.behind(0), 9);
         post.pass(1);
         Check.is("behind it a day later", post.behind(0), 3);
-        Check.fails("behind(1)", Check.INDEX, () -> post.behind(1));
-        Check.fails("behind(-1)", Check.INDEX, () -> post.behind(-1));
+        post.refuses("behind(1)", Check.INDEX, p -> p.behind(1));
+        post.refuses("behind(-1)", Check.INDEX, p -> p.behind(-1));
     }
 }
