@@ -204,6 +204,10 @@ public final class TermsEdgesTest {
         last.pass(8);
         last.post(4, 0, NONE);
         Check.is("the sixth call alone", last.comesTo(0), 1003);
+        Post none = Make.route(4, 0, 0, 4, 1, 5, 0, 9, 6, 0, 0, 7, 0, 9, 8, 0, 3, 9, 0);
+        none.pass(8);
+        none.post(4, 0, NONE);
+        Check.is("none of six calls", none.state(0), SeaPost.LOST);
     }
 
     private static void sentForTheSixthTimeDeadTheSeventh() {
